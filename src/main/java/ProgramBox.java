@@ -625,7 +625,7 @@ public final class ProgramBox {
         final void extend(Value x, int n) {
             sayCut(x, n);
             tighten();
-            long half = 1L << n - 1;
+            long half = 1L << (n - 1);
             long above = ~Bits.lowest(n);
             long cutLow = low;
             long cutHigh = high;
@@ -1367,10 +1367,11 @@ public final class ProgramBox {
         private int reach(Thing t, int o, int z, boolean writes) {
             long a = t.mark + o;
             boolean even = (a & z - 1) == 0;
+            // the first 16 bytes of the context are addresses: they are read whole or not at all
+            long from = writes ? 32 : z == 8 ? 0 : 16;
             switch (t.sort) {
                 case CONTEXT:
-                    boolean from = writes ? a >= 32 : a >= 16 || z == 8 && a >= 0;
-                    return from && a <= CONTEXT_BYTES - z && even ? 0 : 4;
+                    return a >= from && a <= CONTEXT_BYTES - z && even ? 0 : 4;
                 case STACK:
                     return a >= -STACK_BYTES && a <= -z && even ? 0 : 4;
                 case PACKET:
@@ -1961,9 +1962,10 @@ public final class ProgramBox {
             }
             write(head, 4, bytes);
             write(head + 4, 4, records);
-            for (int k = 0; k < all - HEADER; k++) {
-                row[spot(head + HEADER + k)] = k < bytes ? from[k] : 0;
+            for (int k = 0; k < bytes; k++) {
+                row[spot(head + HEADER + k)] = from[k];
             }
+            write(head + HEADER + bytes, all - HEADER - bytes, 0);
             head += all;
             records++;
             return 0;
@@ -2229,8 +2231,11 @@ public final class ProgramBox {
         private byte readByte(long a) {
             if (a >= STACK_AT && a < STACK_AT + STACK_BYTES) {
                 int at = (int) (a - STACK_AT);
-                breachCount += written[at] ? 0 : 1;
-                return written[at] ? stack[at] : 0;
+                if (written[at]) {
+                    return stack[at];
+                }
+                breachCount++;
+                return 0;
             }
             if (a >= PACKET_AT && a < PACKET_AT + store.packetSize) {
                 return store.packetBytes[(int) (a - PACKET_AT)];
@@ -2271,7 +2276,9 @@ public final class ProgramBox {
             int i = Program.immediate(w);
             long a = get(Program.d(w)) + Program.offset(w);
             long y = get(Program.s(w));
-            breachCount += (a & z - 1) == 0 ? 0 : 1;
+            if ((a & z - 1) != 0) {
+                breachCount++;
+            }
             long old = read(a, z);
             long put;
             switch (i & ~1) {
@@ -2336,12 +2343,12 @@ public final class ProgramBox {
                 case LEFT: return x << y;
                 case RIGHT: return x >>> y;
                 case SIGNED_RIGHT: return x >> y;
-                default:
-                    // the lowest 32 bits are the same for the others, but for divisions without sign
-                    boolean divides = (n == DIVIDE || n == REST) && !signed;
-                    long mask = divides ? Bits.lowest(32) : -1L;
-                    return reckoned(n, x & mask, y & mask, signed);
+                default: break;
             }
+            // the lowest 32 bits come out as for longs with these signs, but for divisions without sign
+            boolean divides = (n == DIVIDE || n == REST) && !signed;
+            long mask = divides ? Bits.lowest(32) : -1L;
+            return reckoned(n, x & mask, y & mask, signed);
         }
 
         private void jump(long w) {
