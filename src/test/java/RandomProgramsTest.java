@@ -147,10 +147,7 @@ public final class RandomProgramsTest {
                 w.storeNumber(8, 10, -8 * j, r.nextInt(4));
                 mark();
             }
-            w.copy(2, 10);
-            mark();
-            w.add(2, -8 * words);
-            mark();
+            pointer(2, words);
             w.map(1, k);
             mark();
             w.call(1);
@@ -174,6 +171,22 @@ public final class RandomProgramsTest {
                 mark();
                 w.out(r.nextInt(9));
             }
+        }
+
+        /** Register d gets an address: of so many slots of the stack, or of the packet or a value. */
+        void pointer(int d, int slots) {
+            char c = "sssspi".charAt(r.nextInt(6));
+            int a = some(c);
+            if (c == 's' || sort[a] != c) {
+                w.copy(d, 10);
+                mark();
+                w.add(d, -8 * slots + (r.nextInt(8) == 0 ? r.nextInt(8) : 0));
+            } else {
+                w.copy(d, a);
+                mark();
+                w.add(d, r.nextInt(4));
+            }
+            mark();
         }
 
         void callLeaves() {
@@ -320,14 +333,8 @@ public final class RandomProgramsTest {
                 }
                 int k = r.nextInt(maps.size());
                 fill();
-                w.copy(2, 10);
-                mark();
-                w.add(2, -8 * (1 + r.nextInt(6)));
-                mark();
-                w.copy(3, 10);
-                mark();
-                w.add(3, -8 * (1 + r.nextInt(6)));
-                mark();
+                pointer(2, 1 + r.nextInt(6));
+                pointer(3, 1 + r.nextInt(6));
                 w.move(4, r.nextInt(12) == 0 ? number() : r.nextInt(3));
                 mark();
                 if (i == 4) {

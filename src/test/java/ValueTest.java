@@ -57,24 +57,23 @@ public final class ValueTest {
 
     /** The least number from a on, below 2^64, with these bits; null if there is none. */
     private static BigInteger firstFrom(int[] bits, BigInteger a) {
-        BigInteger best = null;
-        // it is a, or it is a down to some bit, has 1 where a has 0, and is as low as can be below
-        for (int k = -1; k < 64; k++) {
-            if (k >= 0 && (a.testBit(k) || bits[k] == 0)) {
-                continue;
-            }
-            BigInteger n = ZERO;
-            boolean fits = true;
-            for (int j = 63; j >= 0; j--) {
-                int bit = j > k ? (a.testBit(j) ? 1 : 0) : j == k ? 1 : Math.max(bits[j], 0);
-                fits &= bits[j] < 0 || bits[j] == bit;
-                n = bit == 1 ? n.setBit(j) : n;
-            }
-            if (fits && (best == null || n.compareTo(best) < 0)) {
-                best = n;
+        long from = a.longValue(), known = 0, ones = 0;
+        for (int k = 0; k < 64; k++) {
+            known |= bits[k] >= 0 ? 1L << k : 0;
+            ones |= bits[k] == 1 ? 1L << k : 0;
+        }
+        if ((from & known) == ones) {
+            return a;
+        }
+        // it has what a has down to some bit, 1 there where a has 0, and is as low as can be below: the lower that bit, the less
+        for (int k = 0; k < 64; k++) {
+            long above = k == 63 ? 0 : -1L << k + 1, bit = 1L << k;
+            boolean fits = ((from ^ ones) & known & above) == 0 && (from & bit) == 0 && bits[k] != 0;
+            if (fits) {
+                return unsigned(BigInteger.valueOf(from & above | bit | ones & bit - 1));
             }
         }
-        return best;
+        return null;
     }
 
     private static BigInteger lastTo(int[] bits, BigInteger b) {
@@ -682,7 +681,7 @@ public final class ValueTest {
     }
 
     public static void main(String[] args) {
-        int rounds = args.length > 0 ? Integer.parseInt(args[0]) : 500;
+        int rounds = args.length > 0 ? Integer.parseInt(args[0]) : 15000;
         Random r = new Random(args.length > 1 ? Long.parseLong(args[1]) : 5);
         worked();
         for (int k = 0; k < rounds; k++) {

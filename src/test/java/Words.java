@@ -140,11 +140,17 @@ final class Words {
         return v;
     }
 
+    /** What is no full twenty comes first and is cut: so a tape gets as long as it may be. */
     static void type(ProgramBox box, byte[] row) {
-        for (int at = 0; at < row.length; at += 20) {
-            box.feed(big(row, at), big(row, at + 4), big(row, at + 8), big(row, at + 12), big(row, at + 16));
+        int first = row.length % 20;
+        for (int at = first - 20; at < row.length; at += 20) {
+            if (at >= 0) {
+                box.feed(big(row, at), big(row, at + 4), big(row, at + 8), big(row, at + 12), big(row, at + 16));
+            } else if (first > 0) {
+                box.feed(big(row, 0), big(row, 4), big(row, 8), big(row, 12), big(row, 16));
+                box.end(first);
+            }
         }
-        box.end(row.length);
     }
 
     /** Loads this program. */
