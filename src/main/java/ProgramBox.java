@@ -421,9 +421,12 @@ public final class ProgramBox {
             if (wrong == 0) {
                 return a;
             }
-            long top = Long.highestOneBit(wrong);
-            long under = top | top - 1;
-            if ((a & top) == 0) {
+            // the highest wrong bit and all below it
+            long under = wrong;
+            for (int shift = 1; shift < 64; shift *= 2) {
+                under |= under >>> shift;
+            }
+            if ((a & under & ~(under >>> 1)) == 0) {
                 return a & ~under | ones & under;
             }
             long free = ~mask & ~a & ~under;
@@ -433,8 +436,11 @@ public final class ProgramBox {
 
         /** The bits above the highest one in which a and b differ. */
         private static long sameAbove(long a, long b) {
-            long top = Long.highestOneBit(a ^ b);
-            return top == 0 ? -1L : ~(top | top - 1);
+            long under = a ^ b;
+            for (int shift = 1; shift < 64; shift *= 2) {
+                under |= under >>> shift;
+            }
+            return ~under;
         }
 
         /** Becomes what operation n makes of x and y; top is 63, or 31 for shifts by five bits. */
@@ -514,12 +520,12 @@ public final class ProgramBox {
 
         /** How many bits are known, one behind the other from bit 0 on. */
         private int lowestKnown() {
-            return Long.numberOfTrailingZeros(~mask);
+            return Long.bitCount(mask & ~mask - 1);
         }
 
         /** How many of the lowest bits are known to be 0. */
         private int lowestZeros() {
-            return Long.numberOfTrailingZeros(~mask | ones);
+            return Long.bitCount(mask & ~ones & (~mask | ones) - 1);
         }
 
         private void sayDivide(Value x, Value y) {
@@ -1796,7 +1802,11 @@ public final class ProgramBox {
             super(TABLE, keySize, valueSize, entries, row, start);
             keys = new byte[Math.max(0, keySize * entries)];
             taken = new boolean[Math.max(0, entries)];
-            heads = new int[Math.max(1, Integer.highestOneBit(entries))];
+            int chains = 1;
+            for (int n = 2; n <= entries && n > 0; n *= 2) {
+                chains = n;
+            }
+            heads = new int[chains];
             links = new int[Math.max(0, entries)];
         }
 
