@@ -1301,9 +1301,9 @@ public final class ProgramBox {
                 reckonWithOffset(n, wide, y, Program.offset(w));
             } else if (n == NEGATE) {
                 constant.becomeJust(0);
-                operate(SUBTRACT, wide, constant, d);
+                reckonNumbers(SUBTRACT, wide, constant, d);
             } else {
-                operate(n, wide, d, y);
+                reckonNumbers(n, wide, d, y);
             }
             d.becomeNumber(out);
             return 0;
@@ -1328,7 +1328,7 @@ public final class ProgramBox {
             out.cut(left, wide ? 64 : 32);
         }
 
-        private void operate(int n, boolean wide, Value x, Value y) {
+        private void reckonNumbers(int n, boolean wide, Value x, Value y) {
             if (wide) {
                 out.operate(n, x, y, 63);
                 return;
